@@ -249,13 +249,14 @@ public final class DeedProtocol {
 
     public boolean revoke(int power, boolean isTold) throws IndexOutOfBoundsException, IllegalStateException {
         Deed revoked = deedAt(power);
-        if (revoked.mandate == null || !revoked.isClosed()) {
+        Mandate mandate = revoked.mandate;
+        if (mandate == null || !revoked.isClosed()) {
             throw new IllegalStateException("this is no closed POWER");
         }
-        boolean wasRevoked = revoked.mandate.isRevoked;
-        revoked.mandate.isRevoked = true;
+        boolean wasRevoked = mandate.isRevoked;
+        mandate.isRevoked = true;
         // What the taker knows once, it goes on to know.
-        revoked.mandate.isRevocationKnown |= isTold;
+        mandate.isRevocationKnown = mandate.isRevocationKnown || isTold;
         return wasRevoked;
     }
 

@@ -28,17 +28,22 @@ final class Check {
         equal(what, got ? 1 : 0, 0);
     }
 
-    /** The very class counts: the machine's own exceptions are of classes below the due ones. */
     static void refuses(String what, Class<?> due, Call call) {
-        Class<?> got = null;
+        RuntimeException got = null;
         try {
             call.answer();
         } catch (RuntimeException thrown) {
-            got = thrown.getClass();
+            got = thrown;
         }
-        if (got != due) {
-            report(what + " threw " + (got == null ? "nothing" : got.getName()) + ", due is " + due.getName());
+        if (got == null || got.getClass() != due || !isThrownByTheClass(got)) {
+            report(what + " threw " + got + ", due is " + due.getName());
         }
+    }
+
+    /** What the machine or its library throws comes from elsewhere, or is of a class below. */
+    static boolean isThrownByTheClass(RuntimeException thrown) {
+        StackTraceElement[] trace = thrown.getStackTrace();
+        return trace.length > 0 && trace[0].getClassName().startsWith("DeedProtocol");
     }
 
     static void report(String what) {
