@@ -9,6 +9,15 @@ final class Check {
     static final Class<?> ARGUMENT = IllegalArgumentException.class;
     static final Class<?> STATE = IllegalStateException.class;
 
+    /** What a refusal counts as, where answers are put in a row. */
+    static final long REFUSED_INDEX = Long.MIN_VALUE + 1;
+    static final long REFUSED_ARGUMENT = Long.MIN_VALUE + 2;
+    static final long REFUSED_STATE = Long.MIN_VALUE + 3;
+    static final long BROKEN = Long.MIN_VALUE + 4;
+
+    /** What is tested now; it stands ahead of each report. */
+    static String at = "";
+
     private static int wrong = 0;
 
     private Check() {
@@ -40,6 +49,21 @@ final class Check {
         }
     }
 
+    /** The answer of a call, or the number that its refusal counts as. */
+    static long outcome(Call call) {
+        try {
+            return call.answer();
+        } catch (RuntimeException thrown) {
+            if (!isThrownByTheClass(thrown)) {
+                return BROKEN;
+            }
+            Class<?> kind = thrown.getClass();
+            return kind == INDEX ? REFUSED_INDEX
+                    : kind == ARGUMENT ? REFUSED_ARGUMENT
+                    : kind == STATE ? REFUSED_STATE : BROKEN;
+        }
+    }
+
     /** What the machine or its library throws comes from elsewhere, or is of a class below. */
     static boolean isThrownByTheClass(RuntimeException thrown) {
         StackTraceElement[] trace = thrown.getStackTrace();
@@ -48,7 +72,7 @@ final class Check {
 
     static void report(String what) {
         wrong++;
-        System.out.println("  " + what);
+        System.out.println("  " + at + what);
     }
 
     static void end() {

@@ -65,6 +65,40 @@ final class Notary {
         return deed;
     }
 
+    /**
+     * Lets 3 have 1 by all three numbers multiplied of thing 0, which is 0's: 1 buys the first part, 2
+     * inherits the second of it, 3 the third of that; what 1 and 2 leave beside goes to the crown.
+     */
+    static void leaveLittle(DeedProtocol x, int first, int second, int third) {
+        sell(x, 0, 1, 0, 1, first);
+        closedWill(x, 1, 2, 1, second);
+        closedWill(x, 2, 3, 1, third);
+        x.die(1);
+        x.die(2);
+    }
+
+    /**
+     * So many entries, 81 or more: 8 things go from 0 to 10 by ten deaths, then 11 buys a half of thing 0
+     * of 10, then there are pledges of 10 for 11. The last pledge is not entered.
+     */
+    static DeedProtocol withEntries(int count) {
+        DeedProtocol x = withAdults(12);
+        for (int i = 0; i < 8; i++) {
+            x.thing(0, 100);
+        }
+        for (int i = 0; i < 10; i++) {
+            x.child(i, i + 1);
+            x.die(i);
+        }
+        sell(x, 10, 11, 0, 1, 2);
+        for (int i = 81; i < count; i++) {
+            x.enter(fullPledge(x, 10, 11, i % 8, 1, 2));
+        }
+        fullPledge(x, 10, 11, 0, 1, 2);
+        Check.equal("entries at first", x.entries(), count);
+        return x;
+    }
+
     static void shareIs(DeedProtocol x, String when, int thing, int person, int above, int below) {
         Check.equal(when + ": above of " + person, x.share(thing, person, false), above);
         Check.equal(when + ": below of " + person, x.share(thing, person, true), below);

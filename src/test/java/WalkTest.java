@@ -1,13 +1,27 @@
+import java.util.ArrayList;
+import java.util.List;
+
 /**
  * Long runs of calls, ordinary and wrong ones, each answer held against {@link Model}; and now and
- * then everything that can be asked, so that a call that was refused cannot have changed a thing.
+ * then everything that can be asked, so that a call that was refused cannot have changed a thing. For
+ * that the run is gone through again, on objects of which each is asked as much as 512 calls leave.
  */
 public final class WalkTest {
-    private static final int RUNS = 300;
+    private static final int RUNS = 500;
     private static final int CALLS = 512;
+    /** What one turn of a run calls at most. */
+    private static final int CALLS_OF_A_TURN = 10;
+    private static final int[] ASKED_BEHIND = {60, 128, 200, 280, 360, 430, Integer.MAX_VALUE};
     private static final int[] EDGES = {Integer.MIN_VALUE, -2, -1, 0, 1, 99, 100, 101, 1000, Integer.MAX_VALUE};
 
-    private final DeedProtocol real = new DeedProtocol();
+    /** A question, and the answer that is due. */
+    private record Question(int which, String what, Check.Call call, long due) {
+    }
+
+    // Calls are made on what this is when they are made, so that they can be made again on another one.
+    private DeedProtocol real = new DeedProtocol();
+    private final List<Check.Call> script = new ArrayList<>();
+    private final List<Question> questions = new ArrayList<>();
     private final Model model = new Model();
     private final String name;
     private long seed;
@@ -28,7 +42,7 @@ public final class WalkTest {
             }
         }
         for (int i = 0; i < answered.length; i++) {
-            Check.yes("call " + i + " was answered by more than a refusal often: " + answered[i], answered[i] > RUNS);
+            Check.yes("call " + i + " was answered by more than a refusal often: " + answered[i], answered[i] > RUNS / 2);
         }
         Check.end();
     }
@@ -46,17 +60,19 @@ public final class WalkTest {
             int value = 1 + any(1000000);
             same(3, "thing", call(() -> real.thing(owner, value)), model.thing(owner, value));
         }
-        for (int i = people; i < CALLS && wrong == 0; i++) {
+        int asked = 0;
+        while (script.size() <= CALLS - CALLS_OF_A_TURN && wrong == 0) {
             if (any(6) == 0) {
                 step(any(29));
             } else {
                 act(any(100));
             }
-            if (i % 16 == 0) {
-                compareAll();
+            if (script.size() >= ASKED_BEHIND[asked]) {
+                askAll();
+                asked++;
             }
         }
-        compareAll();
+        Check.yes(name + " is no longer than " + CALLS + " calls", script.size() <= CALLS);
     }
 
     /** A call that is likely to bring something about. */
@@ -223,13 +239,13 @@ public final class WalkTest {
             case 18: same(18, "enter", call(() -> real.enter(d)), model.enter(d)); break;
             case 19: same(19, "die", call(() -> real.die(p)), model.die(p)); break;
             case 20: same(20, "entry", call(() -> real.entry(e, n)), model.entry(e, n)); break;
-            case 21: same(21, "entries", real.entries(), model.entries.size()); break;
+            case 21: same(21, "entries", call(() -> real.entries()), model.entries.size()); break;
             case 22: same(22, "search", call(() -> real.search(t, e, m)), model.search(t, e, m)); break;
             case 23: same(23, "pledge", call(() -> real.pledge(t, n)), model.pledge(t, n)); break;
             case 24: same(24, "share", call(() -> real.share(t, p, yes)), model.share(t, p, yes)); break;
             case 25: same(25, "shareAnew", call(() -> real.shareAnew(t, p, yes)), model.share(t, p, yes)); break;
             case 26: same(26, "will", call(() -> real.will(p, n, m, e)), model.will(p, n, m, e)); break;
-            case 27: same(27, "duties", real.duties(), model.duties); break;
+            case 27: same(27, "duties", call(() -> real.duties()), model.duties); break;
             default: {
                 int days = any(9) == 0 ? number(10000) : m;
                 same(28, "pass", call(() -> real.pass(days)), model.pass(days));
@@ -237,56 +253,85 @@ public final class WalkTest {
         }
     }
 
-    private void compareAll() {
-        same(21, "entries", real.entries(), model.entries.size());
-        same(27, "duties", real.duties(), model.duties);
+    private void askAll() {
+        ask(21, "entries", () -> real.entries(), model.entries.size());
+        ask(27, "duties", () -> real.duties(), model.duties);
         for (int person = 0; person < model.people.size(); person++) {
             int one = person;
-            same(4, "isAble " + one, call(() -> real.isAble(one) ? 1 : 0), model.isAble(one));
+            ask(4, "isAble " + one, () -> real.isAble(one) ? 1 : 0, model.isAble(one));
         }
         for (int deed = 0; deed < model.papers.size(); deed++) {
-            compareDeed(deed);
+            askOfDeed(deed);
         }
         for (int thing = 0; thing < model.values.size(); thing++) {
-            compareThing(thing);
+            askOfThing(thing);
         }
         for (int entry = 0; entry < model.entries.size(); entry++) {
             int one = entry;
             for (int what = 0; what < 4; what++) {
                 int asked = what;
-                same(20, "entry " + one + " " + what, call(() -> real.entry(one, asked)), model.entry(one, asked));
+                ask(20, "entry " + one + " " + what, () -> real.entry(one, asked), model.entry(one, asked));
             }
         }
+        answerAll();
     }
 
-    private void compareDeed(int deed) {
+    private void askOfDeed(int deed) {
         for (int i = 0; i < 6; i++) {
             int what = i;
-            same(12, "deed " + deed + " " + what, call(() -> real.deed(deed, what)), model.deed(deed, what));
-            same(13, "label " + deed + " " + what, call(() -> real.label(deed, what)), model.label(deed, what));
+            ask(12, "deed " + deed + " " + what, () -> real.deed(deed, what), model.deed(deed, what));
+            ask(13, "label " + deed + " " + what, () -> real.label(deed, what), model.label(deed, what));
         }
-        same(15, "isGood " + deed, call(() -> real.isGood(deed) ? 1 : 0), model.isGood(deed));
-        same(17, "proof " + deed, call(() -> real.proof(deed)), model.proof(deed));
+        ask(15, "isGood " + deed, () -> real.isGood(deed) ? 1 : 0, model.isGood(deed));
+        ask(17, "proof " + deed, () -> real.proof(deed), model.proof(deed));
     }
 
-    private void compareThing(int thing) {
+    private void askOfThing(int thing) {
         for (int person = -1; person < model.people.size(); person++) {
             int one = person;
             String what = "share of " + one + " of " + thing;
             for (boolean isBelow : new boolean[] {false, true}) {
                 long due = model.share(thing, one, isBelow);
-                same(24, what, call(() -> real.share(thing, one, isBelow)), due);
-                same(25, what + " anew", call(() -> real.shareAnew(thing, one, isBelow)), due);
+                ask(24, what, () -> real.share(thing, one, isBelow), due);
+                ask(25, what + " anew", () -> real.shareAnew(thing, one, isBelow), due);
             }
         }
         for (int rank = 0; rank < 4; rank++) {
             int asked = rank;
-            same(23, "pledge", call(() -> real.pledge(thing, asked)), model.pledge(thing, asked));
+            ask(23, "pledge", () -> real.pledge(thing, asked), model.pledge(thing, asked));
         }
     }
 
+    private void ask(int which, String what, Check.Call call, long due) {
+        questions.add(new Question(which, what, call, due));
+    }
+
+    /** Answers them on objects of their own, and goes on with the one of the run then. */
+    private void answerAll() {
+        DeedProtocol walked = real;
+        int asked = CALLS;
+        for (Question question : questions) {
+            if (asked == CALLS) {
+                real = new DeedProtocol();
+                for (Check.Call call : script) {
+                    outcome(call);
+                }
+                asked = script.size();
+            }
+            same(question.which, question.what + ", asked behind " + script.size(), outcome(question.call), question.due);
+            asked++;
+        }
+        questions.clear();
+        real = walked;
+    }
+
+    private long call(Check.Call call) {
+        script.add(call);
+        return outcome(call);
+    }
+
     /** The very classes count, thrown by the class: what the machine throws is something else. */
-    private static long call(Check.Call call) {
+    private static long outcome(Check.Call call) {
         try {
             return call.answer();
         } catch (RuntimeException thrown) {
